@@ -437,7 +437,7 @@ public final class LogPlacer {
             return sole;
         }
 
-        /** The first two ways that this line alone parts, in one number: first * MOST_WAYS + other. */
+        /** The first two ways that this line alone parts, as first * MOST_WAYS + other. */
         int firstPairPartedBy(int line, int lines) {
             for (int i = 0; i < number; i++) {
                 for (int j = i + 1; j < number; j++) {
@@ -452,7 +452,8 @@ public final class LogPlacer {
 
     /**
      * The sets of steps of which lines must meet each, to tell apart: for two ways, the steps that
-     * only one of them has. Sets that have another one in them are left out, as they are met anyway.
+     * only one of them has. Sets that have another one in them are left out: meeting that one meets
+     * them, too.
      */
     private static final class Partings {
         int[] sets = new int[FIRST_ROOM];
@@ -534,7 +535,13 @@ public final class LogPlacer {
          * barred behind it, so that no set is tried twice.
          */
         private static void choose(
-                Search search, Partings partings, int start, int chosen, int barred, long price, int depth) {
+                Search search,
+                Partings partings,
+                int start,
+                int chosen,
+                int barred,
+                long price,
+                int depth) {
             int open = partings.firstNotMetBy(chosen, start);
             if (open >= partings.number) {
                 search.offer(chosen, price);
@@ -546,9 +553,10 @@ public final class LogPlacer {
             int tried = barred;
             for (int e = 0; e < search.program.steps; e++) {
                 if (has(partings.sets[open] & ~tried, e)) {
+                    int more = chosen | 1 << e;
                     long dearer = price + search.program.times[e] + 1;
                     if (dearer <= search.bestPrice) {
-                        choose(search, partings, open + 1, chosen | 1 << e, tried, dearer, depth + 1);
+                        choose(search, partings, open + 1, more, tried, dearer, depth + 1);
                     }
                     tried |= 1 << e;
                 }
