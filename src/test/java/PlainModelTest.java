@@ -14,7 +14,7 @@ public final class PlainModelTest {
     private static int wrong = 0;
 
     public static void main(String[] args) {
-        for (int run = 0; run < 900 && wrong < 20; run++) {
+        for (int run = 0; run < 1500 && wrong < 20; run++) {
             mixedRun(run, 9);
         }
         for (int run = 0; run < 60 && wrong < 20; run++) {
@@ -43,10 +43,10 @@ public final class PlainModelTest {
                 int b = dice.below(10) == 0 ? dice.near(0, model.n - 1) : a + 1 + dice.below(dice.below(3) + 1);
                 int c = dice.below(3) == 0 ? dice.near(0, 1000000) : dice.below(3);
                 due(run, "step(" + a + "," + b + "," + c + ")", placer.step(a, b, c), model.step(a, b, c));
-            } else {
+            } else if (call % 2 == 0) {
                 change(run, dice, placer, model);
+            } else {
                 ask(run, dice, placer, model, !many);
-                call++;
             }
         }
     }
@@ -103,10 +103,12 @@ public final class PlainModelTest {
                 due(run, "heap(" + i + ")", placer.heap(i), model.heap(i));
                 break;
             case 5:
-                due(run, "apart(" + what + ")", placer.apart(what), model.apart(what));
+                if (!isUntold(what, model)) {
+                    due(run, "apart(" + what + ")", placer.apart(what), model.apart(what));
+                }
                 break;
             case 6:
-                if (cheapest) {
+                if (cheapest && !isUntold(what, model)) {
                     boolean beside = dice.below(2) == 0;
                     due(run, "cheapest(" + what + "," + beside + ")",
                             placer.cheapest(what, beside), model.cheapest(what, beside));
@@ -144,6 +146,11 @@ public final class PlainModelTest {
                 due(run, "count(" + c + ")", placer.count(c), model.count(c));
             }
         }
+    }
+
+    /** Whether NONE or -2 comes first the document does not say. */
+    private static boolean isUntold(int what, Model model) {
+        return what != 0 && what != 1 && model.tooMany();
     }
 
     /** The plain search through all 65536 sets is slow, so these runs are short. */
