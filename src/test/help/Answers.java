@@ -11,17 +11,26 @@ final class Answers {
         steps = (int) placer.count(1);
     }
 
-    /** The tape shows itself only by being read: as its last call, this reads so many bytes of it. */
+    /** All but what stands on the tape: none of these calls changes the object. */
+    static String butTheTape(LogPlacer placer) {
+        return new Answers(placer).put().text.toString();
+    }
+
+    /** The tape shows itself only by being read: at last, this reads so many bytes of it. */
     static String of(LogPlacer placer, int onTape) {
-        Answers all = new Answers(placer);
-        all.flow();
-        all.ways();
-        all.lines();
-        all.log();
+        Answers all = new Answers(placer).put();
         all.put(" read", placer.read(onTape, false));
         all.log();
         all.put(" behind", placer.count(5));
         return all.text.toString();
+    }
+
+    private Answers put() {
+        flow();
+        ways();
+        lines();
+        log();
+        return this;
     }
 
     private void put(String name, long answer) {

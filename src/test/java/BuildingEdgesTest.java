@@ -106,6 +106,13 @@ public final class BuildingEdgesTest extends Checks {
         }
         due("step(10, 11, 0), a seventeenth", x.step(10, 11, 0), NONE);
         due("ways(), no step from node 0", x.ways(), 0);
+        LogPlacer turned = row(1, 1);
+        turned.flow(3);
+        turned.step(1, 2, 0);
+        turned.step(0, 1, 0);
+        due("way(0, 0), the steps lead otherwise than those ahead", turned.way(0, 0), 1);
+        due("way(0, 1), the steps lead otherwise than those ahead", turned.way(0, 1), 0);
+        due("way(0, 2), the steps lead otherwise than those ahead", turned.way(0, 2), NONE);
     }
 
     private static void flowIsWithoutLines() {
@@ -298,6 +305,12 @@ public final class BuildingEdgesTest extends Checks {
         due("look(1, 0), its nodes stay", x.look(1, 0), 0);
         due("look(1, 1), its nodes stay", x.look(1, 1), 2);
         due("price(60), the others stay", x.price(60), 13);
+        lines(x, 1);
+        x.read(0, true);
+        due("counted(1, 0), with a line", x.counted(1, 0), true);
+        due("look(1, 3), its line stays", x.look(1, 3), 1);
+        due("count(4), its line stays", x.count(4), 1);
+        due("allowed(4), the log stays", x.allowed(4), 4);
     }
 
     private static void lineHasSuchSteps() {

@@ -290,16 +290,30 @@ public final class TermsEdgesTest extends Checks {
         LogPlacer x = oneOrTwo(1);
         due("cheapest(1, false), one step of like price", x.cheapest(1, false), 4);
         due("cheapest(0, false) has no choice", x.cheapest(0, false), 3);
+        for (int behind = 0; behind < 4; behind++) {
+            LogPlacer y = oneOrTwoInOrder(1, behind);
+            due("cheapest(1, false), the one is step " + behind, y.cheapest(1, false), 1 << behind);
+        }
     }
 
     /** To tell whether node 1 was passed: steps 0 and 1, at price 2, or step 2, or step 3. */
     private static LogPlacer oneOrTwo(int counted) {
+        return oneOrTwoInOrder(counted, 2);
+    }
+
+    /** So that the step from node 1 on is this one; the others are, in order, two to it and one past it. */
+    private static LogPlacer oneOrTwoInOrder(int counted, int number) {
         LogPlacer x = new LogPlacer();
         x.flow(3);
-        x.step(0, 1, 0);
-        x.step(0, 1, 0);
-        x.step(1, 2, counted);
-        x.step(0, 2, 1000000);
+        int[][] others = {{0, 1, 0}, {0, 1, 0}, {0, 2, 1000000}};
+        for (int e = 0; e < 4; e++) {
+            if (e == number) {
+                x.step(1, 2, counted);
+            } else {
+                int[] other = others[e < number ? e : e - 1];
+                x.step(other[0], other[1], other[2]);
+            }
+        }
         x.fault(1, true);
         return x;
     }
@@ -314,6 +328,21 @@ public final class TermsEdgesTest extends Checks {
         x.step(0, 2, 0);
         x.step(0, 1, 0);
         due("cheapest(0, false), step 0 though it is gone last", x.cheapest(0, false), 1);
+        due("cheapest(0, false), step 2 from node 3", eitherOfTwo(3, 4, 2, 3).cheapest(0, false), 21);
+        due("cheapest(0, false), step 2 from node 2", eitherOfTwo(2, 3, 3, 4).cheapest(0, false), 21);
+    }
+
+    /** The cheapest are steps 0, 4, and either 2 or 3, of which these are the nodes. */
+    private static LogPlacer eitherOfTwo(int from2, int to2, int from3, int to3) {
+        LogPlacer x = new LogPlacer();
+        x.flow(5);
+        x.step(2, 4, 0);
+        x.step(0, 3, 1);
+        x.step(from2, to2, 2);
+        x.step(from3, to3, 2);
+        x.step(0, 2, 0);
+        x.step(2, 4, 617185);
+        return x;
     }
 
     private static void besideHasEachLine() {
@@ -426,15 +455,23 @@ public final class TermsEdgesTest extends Checks {
         for (int what = 1; what <= 5; what++) {
             due("count(" + what + ") of another", other.count(what), 0);
         }
-        other.flow(3);
-        other.step(1, 2, 9);
-        other.fault(2, true);
         due("read(1) of another", other.read(1, true), NONE);
+        due("allowed(0) of another", other.allowed(0), NONE);
+        lines(other, other.step(0, 1, 9), other.step(0, 1, 8));
+        other.fault(0, true);
+        feedBytes(other, 1);
+        due("ways() of another", other.ways(), 2);
         due("ways() of the first", one.ways(), 5);
         due("look(0, 2) of the first", one.look(0, 2), 5);
-        due("count(3) of the first", one.count(3), 1);
+        due("look(1, 3) of the first", one.look(1, 3), 0);
+        due("cheapest(1, true) of the first", one.cheapest(1, true), 1);
+        due("cheapest(1, true) of another", other.cheapest(1, true), 3);
         due("read(1) of the first", one.read(1, false), 3);
-        due("allowed(0) of another", other.allowed(0), NONE);
+        due("read(1) of another", other.read(1, false), 1);
+        due("allowed(2) of the first", one.allowed(2), 2);
+        due("allowed(0) of another", other.allowed(0), 1);
+        due("found(2) of the first", one.found(2), 2);
+        due("found(2) of another", other.found(2), 1);
     }
 
     private static void fiveHundredAndTwelveCalls() {
