@@ -453,7 +453,8 @@ public final class LogPlacer {
     /**
      * The sets of steps of which lines must meet each, to tell apart: for two ways, the steps that
      * only one of them has. Sets that have another one in them are left out: meeting that one meets
-     * them, too.
+     * them, too. As ways are gathered in order, the one in them always comes first: where two ways
+     * go apart and meet again more than once, some two that come earlier do so just one of the times.
      */
     private static final class Partings {
         int[] sets = new int[FIRST_ROOM];
@@ -480,23 +481,11 @@ public final class LogPlacer {
                     return;
                 }
             }
-            dropThoseWith(set);
             if (number >= sets.length) {
                 sets = Arrays.copyOf(sets, 2 * sets.length);
             }
             sets[number] = set;
             number++;
-        }
-
-        private void dropThoseWith(int set) {
-            int kept = 0;
-            for (int k = 0; k < number; k++) {
-                if ((set & ~sets[k]) != 0) {
-                    sets[kept] = sets[k];
-                    kept++;
-                }
-            }
-            number = kept;
         }
 
         boolean allMetBy(int chosen) {
