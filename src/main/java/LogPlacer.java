@@ -453,8 +453,8 @@ public final class LogPlacer {
     /**
      * The sets of steps of which lines must meet each, to tell apart: for two ways, the steps that
      * only one of them has. Sets that have another one in them are left out: meeting that one meets
-     * them, too. As ways are gathered in order, the one in them always comes first: where two ways
-     * go apart and meet again more than once, some two that come earlier do so just one of the times.
+     * them, too. As ways are gathered in order, the one in them always comes first: if two ways go
+     * apart and meet again more than once, some two that come earlier do so at one of the places.
      */
     private static final class Partings {
         int[] sets = new int[FIRST_ROOM];
