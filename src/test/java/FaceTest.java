@@ -66,8 +66,16 @@ public final class FaceTest {
         for (Class<?> inside : LogPlacer.class.getDeclaredClasses()) {
             due(inside + " is not static", Modifier.isStatic(inside.getModifiers()));
             due(inside + " has too many fields", inside.getDeclaredFields().length <= 24);
+            parametersAreFew(inside);
         }
+        parametersAreFew(LogPlacer.class);
         due("too many classes", LogPlacer.class.getDeclaredClasses().length <= 12);
+    }
+
+    private static void parametersAreFew(Class<?> of) {
+        for (Method m : of.getDeclaredMethods()) {
+            due(m + " has too many parameters", m.getParameterCount() <= 7);
+        }
     }
 
     private static String shape(Method m) {
